@@ -10,6 +10,7 @@ public final class FacingDoors {
     private static final int SIDE = 7;
     private static final int MOST_CELLS = 49;
     private static final int MOST_DOORS = 6;
+    private static final int MOST_PRICE = 9;
     private static final int MOST_BYTES = 150;
     private static final int MOST_UNDONE = 10;
     private static final int MOST_TOLD = 6;
@@ -44,7 +45,6 @@ public final class FacingDoors {
         for (int i = 0; i < images.length; i++) {
             images[i] = new Image();
         }
-        scene.begin(plan);
     }
 
     // ---- the quarter
@@ -629,6 +629,7 @@ public final class FacingDoors {
     /** Reads THE TEXT into a draft of a plan; the token at hand is always the first that has not been taken yet. */
     private static final class Reader {
         private static final int END = 0, LETTER = 1, NUMBER = 2, STOP = 3, WRONG = 4;
+        private static final int NO_GROUND = -1;
 
         private final Text text;
         private final Plan plan;
@@ -645,7 +646,7 @@ public final class FacingDoors {
             this.plan = plan;
         }
 
-        /** How many ITEMS, or -10 less FAULT: a token that can't stand there is left at hand, so its start is the FAULT. */
+        /** How many ITEMS, or -10 less FAULT: what can't stand there is left at hand, so its start is the FAULT. */
         private int read() {
             plan.empty();
             next = 0;
@@ -715,112 +716,90 @@ public final class FacingDoors {
         }
 
         private boolean takeWide() {
-            if (items != 0) {
-                return false;
-            }
-            advance();
-            if (!isNumber(1, SIDE)) {
+            if (items != 0 || !nextIsNumber(1, SIDE)) {
                 return false;
             }
             plan.wide = value;
-            advance();
-            return takeStop();
+            return takeEnd();
         }
 
         private boolean takeRow() {
             if (plan.wide == 0 || plan.rows >= SIDE || plan.doors > 0) {
                 return false;
             }
-            int y = plan.rows;
             for (int x = 0; x < plan.wide; x++) {
-                advance();
-                int ground = groundAtHand();
-                if (ground < 0) {
+                int ground = nextGround();
+                if (ground == NO_GROUND) {
                     return false;
                 }
-                plan.ground[placeOf(x, y)] = ground;
+                plan.ground[placeOf(x, plan.rows)] = ground;
             }
             plan.rows++;
-            advance();
-            return takeStop();
+            return takeEnd();
         }
 
-        private int groundAtHand() {
+        private int nextGround() {
+            advance();
             if (token != LETTER) {
-                return -1;
+                return NO_GROUND;
             }
             switch (value) {
                 case 'f': return FREE;
                 case 'x': return WALL;
                 case 't': return TREE;
-                default: return -1;
+                default: return NO_GROUND;
             }
         }
 
         private boolean takeDoor() {
-            if (plan.doors >= MOST_DOORS) {
-                return false;
-            }
-            advance();
-            if (!isNumber(0, plan.wide - 1)) {
+            if (plan.doors >= MOST_DOORS || !nextIsNumber(0, plan.wide - 1)) {
                 return false;
             }
             int x = value;
-            advance();
-            if (token != NUMBER || !plan.isFreeForDoor(x, value)) {
+            if (!nextIsNumber(0, plan.rows - 1) || !plan.isFreeForDoor(x, value)) {
                 return false;
             }
             int y = value;
-            advance();
-            if (!isNumber(0, WAYS - 1)) {
+            if (!nextIsNumber(0, WAYS - 1)) {
                 return false;
             }
             plan.doorX[plan.doors] = x;
             plan.doorY[plan.doors] = y;
             plan.doorFacing[plan.doors] = value;
             plan.doors++;
-            advance();
-            return takeStop();
+            return takeEnd();
         }
 
         private boolean takePrice() {
-            if (priceTold) {
-                return false;
-            }
-            advance();
-            if (!isNumber(1, 9)) {
+            if (priceTold || !nextIsNumber(1, MOST_PRICE)) {
                 return false;
             }
             priceTold = true;
             plan.price = value;
-            advance();
-            return takeStop();
+            return takeEnd();
         }
 
         private boolean takeSight() {
-            if (sightTold) {
-                return false;
-            }
-            advance();
-            if (!isNumber(1, SIDE)) {
+            if (sightTold || !nextIsNumber(1, SIDE)) {
                 return false;
             }
             sightTold = true;
             plan.sight = value;
-            advance();
-            return takeStop();
+            return takeEnd();
         }
 
-        private boolean takeStop() {
+        private boolean nextIsNumber(int least, int most) {
+            advance();
+            return token == NUMBER && value >= least && value <= most;
+        }
+
+        private boolean takeEnd() {
+            advance();
             if (token != STOP) {
                 return false;
             }
             advance();
             return true;
-        }
-
-        private boolean isNumber(int least, int most) {
-            return token == NUMBER && value >= least && value <= most;
         }
     }
 
@@ -1113,17 +1092,22 @@ public final class FacingDoors {
             return found;
         }
 
+        /** The doors ahead of d are chosen: d tells how deep the choice is, six at most. */
         private void choose(int d, int due, int turned) {
             if (!isBetter(due, turned)) {
                 return;
             }
-            if (d >= plan.doors || d >= MOST_DOORS) {
-                found = true;
-                leastDue = due;
-                fewestTurned = turned;
-                System.arraycopy(chosen, 0, best, 0, MOST_DOORS);
+            if (d < plan.doors && d < MOST_DOORS) {
+                chooseEachWay(d, due, turned);
                 return;
             }
+            found = true;
+            leastDue = due;
+            fewestTurned = turned;
+            System.arraycopy(chosen, 0, best, 0, MOST_DOORS);
+        }
+
+        private void chooseEachWay(int d, int due, int turned) {
             for (int way = 0; way < WAYS; way++) {
                 if (allowed[d * WAYS + way]) {
                     chosen[d] = way;

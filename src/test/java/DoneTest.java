@@ -158,6 +158,11 @@ public final class DoneTest {
         }
         CHECK.due("older ones are lost", x.undo(), STATE);
         CHECK.due("undone again", x.fog(1) + x.undo(), 0);
+        FacingDoors y = Check.quarterOf("w2;rff;rff;d0 0 2;");
+        y.moves(0, 2);
+        y.moves(0, 1);
+        CHECK.due("undo right", y.undo() * 100 + y.door(0, 0) * 10 + y.door(0, 1), 101);
+        CHECK.due("undo down", y.undo() * 100 + y.door(0, 0) * 10 + y.door(0, 1), 0);
     }
 
     public static void main(String[] args) {

@@ -40,7 +40,8 @@ public final class FaceTest {
         TreeSet<String> fields = new TreeSet<>();
         for (Field f : FacingDoors.class.getDeclaredFields()) {
             if (!isPrivate(f)) {
-                fields.add(Modifier.toString(f.getModifiers()) + " " + f.getType() + " " + f.getName() + f.getInt(null));
+                String how = Modifier.toString(f.getModifiers());
+                fields.add(how + " " + f.getType() + " " + f.getName() + f.getInt(null));
             }
         }
         String kind = "public static final int ";

@@ -32,6 +32,17 @@ public final class KindsTest {
         CHECK.due("trace is not mended by asking", x.trace(), 111226 + 101 + 10101 + 1011 + 100001);
     }
 
+    private static int done(FacingDoors x, int i) {
+        switch (i) {
+            case 0: return x.bills();
+            case 1: return x.moves(0, 1);
+            case 2: return x.hinges(1, 3);
+            case 3: return x.opens(2, 0);
+            case 4: return x.cart(2, 2, 1);
+            default: return x.leaf(0);
+        }
+    }
+
     private static void images() {
         FacingDoors x = Check.quarterOf(Check.THREE);
         CHECK.due("none kept", x.back(0), STATE);
@@ -41,40 +52,63 @@ public final class KindsTest {
         CHECK.due("back 2", x.back(2), BAD);
         CHECK.due("keep", x.keep(0), 15);
         CHECK.due("the other one is not kept", x.back(1), STATE);
-        String first = Check.scene(x);
-        x.bills();
-        x.moves(0, 1);
-        x.hinges(1, 3);
-        x.opens(2, 0);
-        x.cart(2, 2, 1);
-        x.leaf(0);
+        String[] was = new String[7];
+        for (int i = 0; i < 6; i++) {
+            was[i] = Check.scene(x);
+            CHECK.due("done " + i + " is refused", done(x, i) < 0 ? 1 : 0, 0);
+        }
+        was[6] = Check.scene(x);
         CHECK.due("keep 1", x.keep(1), 12);
-        String second = Check.scene(x);
         x.fog(1);
         x.mark(0, 0);
         CHECK.due("back 0", x.back(0), 15);
-        CHECK.same("as kept", Check.scene(x), first);
+        CHECK.same("as kept", Check.scene(x), was[0]);
         CHECK.due("nothing to be undone there", x.count(6), 0);
         CHECK.due("the trace is not of the image", x.trace(), 1);
         CHECK.due("undo there", x.undo(), STATE);
-        x.bills();
+        for (int i = 0; i < 8; i++) {
+            x.fog(1 - i % 2);
+        }
         CHECK.due("back 1", x.back(1), 12);
-        CHECK.same("as kept in 1", Check.scene(x), second);
+        CHECK.same("as kept in 1", Check.scene(x), was[6]);
         CHECK.due("what may be undone comes back", x.count(6), 6);
-        CHECK.due("undo leaf", x.undo() * 10 + x.now(5), 51);
-        CHECK.due("undo cart", x.undo() * 10 + x.now(4), 40);
-        CHECK.due("undo shut", x.undo() * 10 + x.now(1), 37);
-        CHECK.due("undo hinges", x.undo() * 10 + x.door(1, 2), 22);
-        CHECK.due("undo moved", x.undo() * 10 + x.door(0, 0), 10);
-        CHECK.due("undo bills", x.undo() * 10 + x.now(7), 0);
-        CHECK.same("undone to the first", Check.scene(x), first);
+        for (int left = 5; left >= 0; left--) {
+            CHECK.due("undo", x.undo(), left);
+            CHECK.same("as ahead of " + left, Check.scene(x), was[left]);
+        }
         x.fog(1);
         CHECK.due("back again", x.back(1), 12);
-        CHECK.same("the image stays what it was", Check.scene(x), second);
+        CHECK.same("the image stays what it was", Check.scene(x), was[6]);
         CHECK.due("kept anew over the old", x.fog(1) + x.keep(1), 0);
         x.back(0);
         x.back(1);
         CHECK.due("as kept anew", x.now(6) * 10 + x.count(6), 17);
+    }
+
+    /** The most there can be, asked all over and compared with itself undone. */
+    private static void sixDoors() {
+        FacingDoors x = Check.quarterOf(
+            "w7;rfffffff;rfffffff;rfffffff;rfffffff;rfffffff;rfffffff;rfffffff;"
+            + "d0 0 1;d6 0 2;d6 6 3;d0 6 0;d3 0 2;d3 6 0;");
+        // 0 sees 4, 1 sees 2, 2 sees 5, 3 sees 0, 4 and 5 stare at one another.
+        int[] whom = {16, 4, 32, 1, 32, 16};
+        for (int d = 0; d < 6; d++) {
+            CHECK.due("of six, door " + d + " sees", x.door(d, 4), whom[d]);
+        }
+        CHECK.due("six: a seventh", x.door(6, 0), BAD);
+        CHECK.due("six: dues", x.now(0), 8);
+        CHECK.due("six: way in", x.now(2), 63);
+        CHECK.due("six: bills", x.bills() + x.now(7), 16);
+        CHECK.due("six: cart", x.cartAt(), 13);
+        CHECK.due("six: bound", x.bound(0), 0);
+        // Each must see someone; 4 looks right, or 5 left: the first of both is that 4 is turned.
+        CHECK.due("six: least", x.turn(-1), 6);
+        CHECK.due("six: turned", x.turn(-2), 1);
+        CHECK.due("six: facing of 4 and 5", x.turn(4) * 10 + x.turn(5), 10);
+        CHECK.due("six: all sets", x.open(0), 64);
+        CHECK.due("six: mean", x.mean(5, 0), 4);
+        CHECK.due("six: undone", x.undo() + x.now(7), 0);
+        CHECK.due("six: mark", x.mark(3, 5), 8);
     }
 
     private static void notInImages() {
@@ -127,6 +161,7 @@ public final class KindsTest {
     public static void main(String[] args) {
         marks();
         images();
+        sixDoors();
         notInImages();
         refusedChangesNothing();
         CHECK.end();

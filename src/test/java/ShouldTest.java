@@ -48,6 +48,9 @@ public final class ShouldTest {
         CHECK.due("no way in, bound 2", x.bound(2), BAD);
         FacingDoors one = Check.quarterOf("w3;rffx;rxxf;d0 0 1;d2 1 0;");
         CHECK.due("one of both has no way in", one.turn(0), NONE);
+        FacingDoors zero = Check.quarterOf("w4;rfxff;d0 0 1;d2 0 1;");
+        CHECK.due("door 0 has no way in", zero.turn(1), NONE);
+        CHECK.due("door 0 has no way in, bound", zero.bound(0), NONE);
         CHECK.due("one of both has no way in, bound", one.bound(0), NONE);
     }
 
@@ -70,6 +73,7 @@ public final class ShouldTest {
         CHECK.due("side by side", Check.quarterOf("w2;rff;d0 0 1;d1 0 3;").cartAt(), NONE);
         // Where two lines cross, one cart relieves both.
         CHECK.due("a crossing", Check.quarterOf("w3;rfff;rfff;rfff;d0 1 1;d2 1 0;d1 2 0;d1 0 1;").cartAt(), 11);
+        CHECK.due("in the first column", Check.quarterOf("w2;rff;rff;rff;d0 0 2;d0 2 0;").cartAt(), 10);
         // A cell of row 0 and one of row 1 relieve alike: y comes ahead of x.
         CHECK.due("the lowest y", Check.quarterOf("w3;rfff;rfff;d0 1 1;d2 1 2;d0 0 1;d2 0 2;").cartAt(), 1);
         CHECK.due("the lowest y, not x", Check.quarterOf("w4;rxfff;rffff;d0 1 1;d2 1 2;d1 0 1;d3 0 2;").cartAt(), 2);
@@ -95,6 +99,10 @@ public final class ShouldTest {
         // 1 must look at 0, 3 must look at 2: each of the two rows is shut in.
         bounds("two", Check.quarterOf("w3;rfff;rxxx;rfff;d0 0 1;d2 0 3;d0 2 1;d2 2 3;"), 2, 1);
         bounds("the latter sees", Check.quarterOf("w3;rfff;rffx;d0 0 2;d2 0 3;"), 1, 1);
+        // Door 0 can look up at nobody, so it need not look at door 1.
+        bounds("up is a way in", Check.quarterOf("w3;rfxf;rfff;rxxf;d0 1 1;d2 1 2;"), 0, NONE);
+        bounds("up is the way in", Check.quarterOf("w1;rf;rf;rf;rf;d0 2 0;d0 0 2;"), 1, 1);
+        bounds("up is the only way in", Check.quarterOf("w2;rff;rfx;rfx;d0 2 0;d0 0 1;"), 1, 1);
         bounds("a tree in leaf", Check.quarterOf("w4;rfftf;d0 0 1;"), 0, NONE);
         FacingDoors tree = Check.quarterOf("w5;rfftff;d0 0 1;d4 0 3;");
         bounds("a tree between", tree, 0, NONE);

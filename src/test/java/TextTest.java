@@ -111,6 +111,8 @@ public final class TextTest {
         fault("p^10;");
         fault("s^0;");
         fault("s^8;");
+        fault("s^99;");
+        fault("w^11;");
         fault("w1;rf;d^1 0 0;");
         fault("w1;rf;d0 ^1 0;");
         fault("w1;rf;d0 0 ^4;");
@@ -131,6 +133,9 @@ public final class TextTest {
         fault("w1^,");
         fault("w1;^\t");
         fault("w1;r^F;");
+        fault("w^a");
+        fault("w^z");
+        fault("^z;");
         fault("w^{");
         fault("w^`");
         fault("w1^:");
@@ -141,10 +146,13 @@ public final class TextTest {
 
     private static void readAnew() {
         FacingDoors x = Check.quarterOf("w2;rff;d0 0 1;p4;s2;");
+        CHECK.due("anew: s may be told again", Check.tell(x, "w4;rffff;d0 0 1;d3 0 3;s3;p4;"), 6);
+        x.bills();
+        x.moves(0, 1);
         x.opens(0, 0);
         x.leaf(0);
         x.fog(1);
-        x.cart(1, 0, 1);
+        CHECK.due("a cart there", x.cart(0, 0, 1), 1);
         x.tells(0, 0);
         x.keep(0);
         x.keep(1);
@@ -156,6 +164,7 @@ public final class TextTest {
             CHECK.due("anew: count " + what, x.count(what), counts[what]);
             CHECK.due("anew: now " + what, x.now(what), nows[what]);
         }
+        CHECK.due("anew: no cart", x.cell(0, 0), 0);
         CHECK.due("anew: image 0", x.back(0), FacingDoors.STATE);
         CHECK.due("anew: image 1", x.back(1), FacingDoors.STATE);
         CHECK.due("anew: undo", x.undo(), FacingDoors.STATE);
