@@ -66,7 +66,7 @@ public final class KindsTest {
         CHECK.due("nothing to be undone there", x.count(6), 0);
         CHECK.due("the trace is not of the image", x.trace(), 1);
         CHECK.due("undo there", x.undo(), STATE);
-        for (int i = 0; i < 8; i++) {
+        for (int i = 0; i < 11; i++) {
             x.fog(1 - i % 2);
         }
         CHECK.due("back 1", x.back(1), 12);
@@ -124,6 +124,16 @@ public final class KindsTest {
         x.keep(1);
         x.undo();
         CHECK.due("an undo leaves the image", x.back(1) * 100 + x.now(7), 1515);
+        for (int i = 0; i < 12; i++) {
+            x.bills();
+        }
+        x.keep(0);
+        x.undo();
+        x.back(0);
+        CHECK.due("ten that may be undone are kept", x.count(6) * 1000 + x.now(7), 10195);
+        for (int left = 9; left >= 0; left--) {
+            CHECK.due("undo of ten", x.undo() * 1000 + x.now(7), left * 1000 + 45 + 15 * left);
+        }
     }
 
     private static void refusedChangesNothing() {
