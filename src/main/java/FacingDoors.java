@@ -162,7 +162,7 @@ public final class FacingDoors {
             return STATE;
         }
         history.push(scene);
-        scene.carts ^= cartBit(x, y);
+        scene.carts ^= 1L << placeOf(x, y);
         return Long.bitCount(scene.carts);
     }
 
@@ -455,7 +455,7 @@ public final class FacingDoors {
         for (int step = 1; step < SIDE; step++) {
             x += STEP_X[way];
             y += STEP_Y[way];
-            if (!plan.hasCell(x, y) || scene.isDoorOn(seen, x, y)) {
+            if (!plan.hasCell(x, y) || scene.x[seen] == x && scene.y[seen] == y) {
                 return;
             }
             if (plan.groundAt(x, y) == FREE) {
@@ -524,10 +524,6 @@ public final class FacingDoors {
 
     private static int placeOf(int x, int y) {
         return y * SIDE + x;
-    }
-
-    private static long cartBit(int x, int y) {
-        return 1L << placeOf(x, y);
     }
 
     private static int wayBack(int facing) {
@@ -843,16 +839,12 @@ public final class FacingDoors {
         }
 
         private boolean hasCart(int atX, int atY) {
-            return (carts & cartBit(atX, atY)) != 0L;
-        }
-
-        private boolean isDoorOn(int d, int atX, int atY) {
-            return x[d] == atX && y[d] == atY;
+            return (carts >> placeOf(atX, atY) & 1L) != 0L;
         }
 
         private int doorOn(int atX, int atY, int doors) {
             for (int d = 0; d < doors && d < MOST_DOORS; d++) {
-                if (isDoorOn(d, atX, atY)) {
+                if (x[d] == atX && y[d] == atY) {
                     return d;
                 }
             }
@@ -946,9 +938,10 @@ public final class FacingDoors {
                 && scene.doorOn(x, y, plan.doors) == NOBODY;
         }
 
-        private boolean hidesWhatIsBehind(int x, int y) {
-            int ground = plan.groundAt(x, y);
-            return ground == WALL || ground == TREE && scene.inLeaf || scene.hasCart(x, y);
+        /** The place is one of a CELL there is. */
+        private boolean hidesWhatIsBehind(int place) {
+            int ground = plan.ground[place];
+            return ground == WALL || ground == TREE && scene.inLeaf || (scene.carts >> place & 1L) != 0L;
         }
 
         /** The door that d would see if it were FACING that way, open and without fog. */
@@ -965,7 +958,7 @@ public final class FacingDoors {
                 if (other != NOBODY) {
                     return other;
                 }
-                if (hidesWhatIsBehind(x, y)) {
+                if (hidesWhatIsBehind(placeOf(x, y))) {
                     return NOBODY;
                 }
             }
