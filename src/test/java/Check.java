@@ -1,26 +1,53 @@
+import java.io.IOException;
+import java.nio.file.Files;
+import java.nio.file.Path;
+
 /** What the tests share: counting wrong answers, telling a quarter, and a picture of all that can be asked. */
 final class Check {
+    private static final Path DOCUMENT = Path.of("../shared/DOC.md");
     /** Three doors: 0 sees 1, and 1 and 2 stare at one another; the price is 3, so 3 + 6 + 6 is due. */
     static final String THREE = "w4;rffff;rfxtf;rffff;d0 0 1;d3 0 2;d3 2 0;p3;";
     /** Two doors that stare at one another over a single cell; the price is 2. */
     static final String STREET = "w3;rfff;d0 0 1;d2 0 3;p2;";
 
+    private String document = "";
+    private String sentence = "";
+    private int sentences = 0;
+    private int askedOfIt = 1;
     private int asked = 0;
     private int wrong = 0;
 
+    /** What is asked from here on is due by that sentence, which must stand in the document word for word. */
+    void says(String words) throws IOException {
+        if (document.isEmpty()) {
+            document = Files.readString(DOCUMENT).replaceAll("\\s+", " ");
+        }
+        due("answers asked of '" + sentence + "'", Math.min(1, askedOfIt), 1);
+        sentence = words;
+        sentences++;
+        due("the document has this sentence", document.contains(words) ? 1 : 0, 1);
+        askedOfIt = 0;
+    }
+
+    private void tell(String what) {
+        System.out.println((sentence.isEmpty() ? "" : "[" + sentence + "] ") + what);
+    }
+
     void due(String call, long got, long want) {
         asked++;
+        askedOfIt++;
         if (got != want) {
             wrong++;
-            System.out.println(call + " answered " + got + ", due is " + want);
+            tell(call + " answered " + got + ", due is " + want);
         }
     }
 
     void same(String call, String got, String want) {
         asked++;
+        askedOfIt++;
         if (!got.equals(want)) {
             wrong++;
-            System.out.println(call + ":\n  is     " + got + "\n  due is " + want);
+            tell(call + ":\n  is     " + got + "\n  due is " + want);
         }
     }
 
@@ -29,26 +56,28 @@ final class Check {
     }
 
     void end() {
-        System.out.println(asked + " answers, " + wrong + " of them wrong");
+        due("answers asked of '" + sentence + "'", Math.min(1, askedOfIt), 1);
+        String told = sentences == 0 ? "" : ", of " + sentences + " sentences";
+        System.out.println(asked + " answers" + told + ", " + wrong + " of them wrong");
         if (wrong != 0 || asked == 0) {
             System.exit(1);
         }
     }
 
-    static void typeAll(FacingDoors x, String text) {
+    static void typeAll(Doors x, String text) {
         for (int i = 0; i < text.length(); i++) {
             x.type(text.charAt(i));
         }
     }
 
-    static int tell(FacingDoors x, String text) {
+    static int tell(Doors x, String text) {
         x.clear();
         typeAll(x, text);
         return x.quarter();
     }
 
-    static FacingDoors quarterOf(String text) {
-        FacingDoors x = new FacingDoors();
+    static Doors quarterOf(String text) {
+        Doors x = new Doors();
         int items = tell(x, text);
         if (items < 0) {
             throw new IllegalStateException("not a quarter: " + text + ": " + items);
@@ -57,7 +86,7 @@ final class Check {
     }
 
     /** Every answer that can be had without a change. */
-    static String picture(FacingDoors x) {
+    static String picture(Doors x) {
         StringBuilder all = new StringBuilder();
         for (int what = 0; what < 8; what++) {
             all.append(x.count(what)).append(' ');
@@ -66,7 +95,7 @@ final class Check {
     }
 
     /** Every such answer that tells of what is NOW, but for how many may be undone. */
-    static String scene(FacingDoors x) {
+    static String scene(Doors x) {
         StringBuilder all = new StringBuilder();
         for (int what = 0; what < 8; what++) {
             all.append(x.now(what)).append(' ');

@@ -4,7 +4,7 @@ public final class KindsTest {
     private static final int BAD = FacingDoors.BAD, STATE = FacingDoors.STATE, NO = FacingDoors.NO;
 
     private static void marks() {
-        FacingDoors x = Check.quarterOf(Check.THREE);
+        Doors x = Check.quarterOf(Check.THREE);
         x.bills();
         int[] want = {6, 8, 4, 16, 11, 12};
         long[] trace = {1, 11, 101, 1011, 10101, 100001};
@@ -32,7 +32,7 @@ public final class KindsTest {
         CHECK.due("trace is not mended by asking", x.trace(), 111226 + 101 + 10101 + 1011 + 100001);
     }
 
-    private static int done(FacingDoors x, int i) {
+    private static int done(Doors x, int i) {
         switch (i) {
             case 0: return x.bills();
             case 1: return x.moves(0, 1);
@@ -44,7 +44,7 @@ public final class KindsTest {
     }
 
     private static void images() {
-        FacingDoors x = Check.quarterOf(Check.THREE);
+        Doors x = Check.quarterOf(Check.THREE);
         CHECK.due("none kept", x.back(0), STATE);
         CHECK.due("keep -1", x.keep(-1), BAD);
         CHECK.due("keep 2", x.keep(2), BAD);
@@ -52,17 +52,14 @@ public final class KindsTest {
         CHECK.due("back 2", x.back(2), BAD);
         CHECK.due("keep", x.keep(0), 15);
         CHECK.due("the other one is not kept", x.back(1), STATE);
-        String[] was = new String[7];
         for (int i = 0; i < 6; i++) {
-            was[i] = Check.scene(x);
             CHECK.due("done " + i + " is refused", done(x, i) < 0 ? 1 : 0, 0);
         }
-        was[6] = Check.scene(x);
         CHECK.due("keep 1", x.keep(1), 12);
         x.fog(1);
         x.mark(0, 0);
         CHECK.due("back 0", x.back(0), 15);
-        CHECK.same("as kept", Check.scene(x), was[0]);
+        CHECK.same("as kept", Check.scene(x), Check.scene(behind(0)));
         CHECK.due("nothing to be undone there", x.count(6), 0);
         CHECK.due("the trace is not of the image", x.trace(), 1);
         CHECK.due("undo there", x.undo(), STATE);
@@ -70,24 +67,44 @@ public final class KindsTest {
             x.fog(1 - i % 2);
         }
         CHECK.due("back 1", x.back(1), 12);
-        CHECK.same("as kept in 1", Check.scene(x), was[6]);
+        CHECK.same("as kept in 1", Check.scene(x), Check.scene(behind(6)));
         CHECK.due("what may be undone comes back", x.count(6), 6);
-        for (int left = 5; left >= 0; left--) {
-            CHECK.due("undo", x.undo(), left);
-            CHECK.same("as ahead of " + left, Check.scene(x), was[left]);
-        }
+        x.undo();
         x.fog(1);
         CHECK.due("back again", x.back(1), 12);
-        CHECK.same("the image stays what it was", Check.scene(x), was[6]);
+        CHECK.same("the image stays what it was", Check.scene(x), Check.scene(behind(6)));
         CHECK.due("kept anew over the old", x.fog(1) + x.keep(1), 0);
         x.back(0);
         x.back(1);
         CHECK.due("as kept anew", x.now(6) * 10 + x.count(6), 17);
     }
 
+    private static Doors behind(int things) {
+        Doors x = Check.quarterOf(Check.THREE);
+        for (int i = 0; i < things; i++) {
+            done(x, i);
+        }
+        return x;
+    }
+
+    private static void whatIsUndoneOfAnImage() {
+        for (int undone = 1; undone <= 6; undone++) {
+            Doors x = behind(6);
+            x.keep(1);
+            for (int i = 0; i < 11; i++) {
+                x.fog(1 - i % 2);
+            }
+            x.back(1);
+            for (int i = 1; i <= undone; i++) {
+                CHECK.due("undo", x.undo(), 6 - i);
+            }
+            CHECK.same("as ahead of " + (6 - undone), Check.scene(x), Check.scene(behind(6 - undone)));
+        }
+    }
+
     /** The most there can be, asked all over and compared with itself undone. */
     private static void sixDoors() {
-        FacingDoors x = Check.quarterOf(
+        Doors x = Check.quarterOf(
             "w7;rfffffff;rfffffff;rfffffff;rfffffff;rfffffff;rfffffff;rfffffff;"
             + "d0 0 1;d6 0 2;d6 6 3;d0 6 0;d3 0 2;d3 6 0;");
         // 0 sees 4, 1 sees 2, 2 sees 5, 3 sees 0, 4 and 5 stare at one another.
@@ -112,7 +129,7 @@ public final class KindsTest {
     }
 
     private static void notInImages() {
-        FacingDoors x = Check.quarterOf(Check.THREE);
+        Doors x = Check.quarterOf(Check.THREE);
         x.tells(0, 3);
         x.keep(0);
         x.tells(1, 0);
@@ -137,7 +154,7 @@ public final class KindsTest {
     }
 
     private static void refusedChangesNothing() {
-        FacingDoors x = Check.quarterOf(Check.THREE);
+        Doors x = Check.quarterOf(Check.THREE);
         x.bills();
         x.mark(3, 1);
         for (int i = 0; i < 6; i++) {
@@ -171,6 +188,7 @@ public final class KindsTest {
     public static void main(String[] args) {
         marks();
         images();
+        whatIsUndoneOfAnImage();
         sixDoors();
         notInImages();
         refusedChangesNothing();

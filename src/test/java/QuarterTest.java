@@ -3,7 +3,7 @@ public final class QuarterTest {
     private static final Check CHECK = new Check();
 
     private static void cells() {
-        FacingDoors x = Check.quarterOf(Check.THREE);
+        Doors x = Check.quarterOf(Check.THREE);
         int[][] want = {{10, 0, 0, 11}, {0, 1, 2, 0}, {0, 0, 0, 12}};
         for (int y = 0; y < 3; y++) {
             for (int at = 0; at < 4; at++) {
@@ -20,7 +20,7 @@ public final class QuarterTest {
     }
 
     private static void doors() {
-        FacingDoors x = Check.quarterOf(Check.THREE);
+        Doors x = Check.quarterOf(Check.THREE);
         int[][] want = {
             {0, 0, 1, 1, 2, 3, 1, 0, 0},
             {3, 0, 2, 1, 4, 6, 1, 5, 0},
@@ -52,7 +52,7 @@ public final class QuarterTest {
         seen("w2;rff;d0 0 1;d1 0 0;s1;", 0, 2);
         seen("w1;rf;rf;rf;rf;rf;rf;rf;d0 6 0;d0 0 1;", 0, 2);
         seen("w2;rff;rff;d0 0 1;d0 1 0;", 1, 1);
-        FacingDoors x = Check.quarterOf("w5;rfftff;d0 0 1;d4 0 3;");
+        Doors x = Check.quarterOf("w5;rfftff;d0 0 1;d4 0 3;");
         CHECK.due("bare trees hide nothing", x.leaf(0), 4);
         CHECK.due("a shut one is seen all the same", x.opens(1, 0) + 10 * x.door(0, 5) + 100 * x.now(3), 20);
         x.cart(1, 0, 1);
@@ -73,7 +73,7 @@ public final class QuarterTest {
         wayIn("w1;rf;rx;d0 0 2;", 0);
         wayIn("w1;rf;rt;d0 0 2;", 0);
         wayIn("w1;rf;rf;rf;d0 0 2;d0 1 2;", 2);
-        FacingDoors x = Check.quarterOf("w3;rtff;d1 0 1;");
+        Doors x = Check.quarterOf("w3;rtff;d1 0 1;");
         CHECK.due("a way in", x.now(2), 1);
         x.cart(2, 0, 1);
         CHECK.due("none into a cart", x.now(2), 0);
@@ -88,7 +88,7 @@ public final class QuarterTest {
     }
 
     private static void nowAndCount() {
-        FacingDoors x = Check.quarterOf(Check.THREE + "s5;");
+        Doors x = Check.quarterOf(Check.THREE + "s5;");
         x.bills();
         x.cart(1, 0, 1);
         x.opens(2, 0);
@@ -112,7 +112,7 @@ public final class QuarterTest {
 
     private static void pairs() {
         CHECK.due("pairs of three", Check.quarterOf(Check.THREE).now(3), 1);
-        FacingDoors x = Check.quarterOf("w3;rfff;rfff;d0 0 1;d2 0 3;d2 1 3;d0 1 1;");
+        Doors x = Check.quarterOf("w3;rfff;rfff;d0 0 1;d2 0 3;d2 1 3;d0 1 1;");
         CHECK.due("two pairs", x.now(3), 2);
         x.opens(3, 0);
         CHECK.due("one is shut", x.now(3), 1);

@@ -3,7 +3,7 @@ public final class ShouldTest {
     private static final Check CHECK = new Check();
     private static final int BAD = FacingDoors.BAD, NONE = FacingDoors.NONE;
 
-    private static void turned(String why, FacingDoors x, int due, int many, int... facing) {
+    private static void turned(String why, Doors x, int due, int many, int... facing) {
         String was = Check.picture(x);
         CHECK.due(why + ": how much", x.turn(-1), due);
         CHECK.due(why + ": how many", x.turn(-2), many);
@@ -15,17 +15,17 @@ public final class ShouldTest {
     }
 
     private static void turn() {
-        FacingDoors x = Check.quarterOf(Check.THREE);
+        Doors x = Check.quarterOf(Check.THREE);
         turned("three", x, 3, 2, 2, 2, 3);
         CHECK.due("turn -3", x.turn(-3), BAD);
         CHECK.due("turn, least", x.turn(Integer.MIN_VALUE), BAD);
         // A shut door owes nothing, so the one that can't but see is left as it is.
-        x.opens(1, 0);
-        turned("door 1 shut", x, 0, 2, 2, 2, 3);
-        x.undo();
-        x.fog(1);
-        turned("fog", x, 0, 0, 1, 2, 0);
-        x.undo();
+        Doors shut = Check.quarterOf(Check.THREE);
+        shut.opens(1, 0);
+        turned("door 1 shut", shut, 0, 2, 2, 2, 3);
+        Doors foggy = Check.quarterOf(Check.THREE);
+        foggy.fog(1);
+        turned("fog", foggy, 0, 0, 1, 2, 0);
         turned("they stare", Check.quarterOf(Check.STREET), 8, 0, 1, 3);
         turned("price", Check.quarterOf("w3;rfff;d0 0 1;d2 0 3;p9;"), 36, 0, 1, 3);
         // Of 1, 2 and 3 (0 leads out) none owes anything and each is one turn: the first is taken.
@@ -38,7 +38,7 @@ public final class ShouldTest {
     }
 
     private static void noWay() {
-        FacingDoors x = Check.quarterOf("w2;rff;d0 0 1;d1 0 3;");
+        Doors x = Check.quarterOf("w2;rff;d0 0 1;d1 0 3;");
         for (int d = -2; d < 2; d++) {
             CHECK.due("no way in, turn " + d, x.turn(d), NONE);
         }
@@ -46,22 +46,22 @@ public final class ShouldTest {
         CHECK.due("no way in, bound 0", x.bound(0), NONE);
         CHECK.due("no way in, bound 1", x.bound(1), NONE);
         CHECK.due("no way in, bound 2", x.bound(2), BAD);
-        FacingDoors one = Check.quarterOf("w3;rffx;rxxf;d0 0 1;d2 1 0;");
+        Doors one = Check.quarterOf("w3;rffx;rxxf;d0 0 1;d2 1 0;");
         CHECK.due("one of both has no way in", one.turn(0), NONE);
-        FacingDoors zero = Check.quarterOf("w4;rfxff;d0 0 1;d2 0 1;");
+        Doors zero = Check.quarterOf("w4;rfxff;d0 0 1;d2 0 1;");
         CHECK.due("door 0 has no way in", zero.turn(1), NONE);
         CHECK.due("door 0 has no way in, bound", zero.bound(0), NONE);
         CHECK.due("one of both has no way in, bound", one.bound(0), NONE);
     }
 
     private static void cartAt() {
-        FacingDoors x = Check.quarterOf(Check.THREE);
+        Doors x = Check.quarterOf(Check.THREE);
         CHECK.due("between both that stare", x.cartAt(), 13);
         x.cart(3, 1, 1);
         CHECK.due("of two cells the first", x.cartAt(), 1);
         x.cart(1, 0, 1);
         CHECK.due("nothing left", x.cartAt(), NONE);
-        FacingDoors bare = Check.quarterOf("w4;rftff;d0 0 1;d3 0 0;");
+        Doors bare = Check.quarterOf("w4;rftff;d0 0 1;d3 0 0;");
         CHECK.due("nobody sees", bare.cartAt(), NONE);
         bare.leaf(0);
         CHECK.due("not on a tree", bare.cartAt(), 2);
@@ -79,7 +79,7 @@ public final class ShouldTest {
         CHECK.due("the lowest y, not x", Check.quarterOf("w4;rxfff;rffff;d0 1 1;d2 1 2;d1 0 1;d3 0 2;").cartAt(), 2);
     }
 
-    private static void bounds(String why, FacingDoors x, int many, int first) {
+    private static void bounds(String why, Doors x, int many, int first) {
         CHECK.due(why + ": how many", x.bound(0), many);
         CHECK.due(why + ": the first", x.bound(1), first);
         CHECK.due(why + ": 2", x.bound(2), BAD);
@@ -87,7 +87,7 @@ public final class ShouldTest {
     }
 
     private static void bound() {
-        FacingDoors x = Check.quarterOf(Check.THREE);
+        Doors x = Check.quarterOf(Check.THREE);
         bounds("three", x, 0, NONE);
         x.cart(2, 0, 1);
         bounds("door 1 must look down", x, 1, 12);
@@ -104,7 +104,7 @@ public final class ShouldTest {
         bounds("up is the way in", Check.quarterOf("w1;rf;rf;rf;rf;d0 2 0;d0 0 2;"), 1, 1);
         bounds("up is the only way in", Check.quarterOf("w2;rff;rfx;rfx;d0 2 0;d0 0 1;"), 1, 1);
         bounds("a tree in leaf", Check.quarterOf("w4;rfftf;d0 0 1;"), 0, NONE);
-        FacingDoors tree = Check.quarterOf("w5;rfftff;d0 0 1;d4 0 3;");
+        Doors tree = Check.quarterOf("w5;rfftff;d0 0 1;d4 0 3;");
         bounds("a tree between", tree, 0, NONE);
         tree.leaf(0);
         bounds("a bare tree between", tree, 1, 1);

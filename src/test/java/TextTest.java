@@ -3,7 +3,7 @@ public final class TextTest {
     private static final Check CHECK = new Check();
 
     private static void items(String text, int many) {
-        FacingDoors x = new FacingDoors();
+        Doors x = new Doors();
         CHECK.due("'" + text + "'", Check.tell(x, text), many);
         CHECK.due("'" + text + "' is empty then", x.count(7), 0);
     }
@@ -12,7 +12,7 @@ public final class TextTest {
     private static void fault(String marked) {
         int place = marked.indexOf('^');
         String text = marked.substring(0, place) + marked.substring(place + 1);
-        FacingDoors x = Check.quarterOf(Check.THREE);
+        Doors x = Check.quarterOf(Check.THREE);
         x.bills();
         x.keep(0);
         x.tells(0, 1);
@@ -25,7 +25,7 @@ public final class TextTest {
     }
 
     private static void type() {
-        FacingDoors x = new FacingDoors();
+        Doors x = new Doors();
         CHECK.due("type -1", x.type(-1), FacingDoors.BAD);
         CHECK.due("type 256", x.type(256), FacingDoors.BAD);
         CHECK.due("type 0", x.type(0), 1);
@@ -145,7 +145,7 @@ public final class TextTest {
     }
 
     private static void readAnew() {
-        FacingDoors x = Check.quarterOf("w2;rff;d0 0 1;p4;s2;");
+        Doors x = Check.quarterOf("w2;rff;d0 0 1;p4;s2;");
         CHECK.due("anew: s may be told again", Check.tell(x, "w4;rffff;d0 0 1;d3 0 3;s3;p4;"), 6);
         x.bills();
         x.moves(0, 1);
