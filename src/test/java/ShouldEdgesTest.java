@@ -254,6 +254,35 @@ public final class ShouldEdgesTest {
         bounds("too far", Check.quarterOf("w5;rfffff;d0 0 0;d4 0 0;s3;"), 0, NONE);
     }
 
+    /**
+     * Walls, and door 0 in their midst. It can look that way at door 1, which can look away; it can look the other way,
+     * too, at nobody.
+     */
+    private static Doors amongWalls(int way, int other) {
+        int[] stepX = {0, 1, 0, -1}, stepY = {-1, 0, 1, 0};
+        StringBuilder cells = new StringBuilder("x".repeat(49));
+        for (int far = 0; far <= 3; far++) {
+            cells.setCharAt(24 + far * (stepX[way] + 7 * stepY[way]), 'f');
+        }
+        cells.setCharAt(24 + stepX[other] + 7 * stepY[other], 'f');
+        StringBuilder text = new StringBuilder("w7;");
+        for (int y = 0; y < 7; y++) {
+            text.append("r" + cells.substring(7 * y, 7 * y + 7) + ";");
+        }
+        return Check.quarterOf(text + "d3 3 0;d" + (3 + 2 * stepX[way]) + " " + (3 + 2 * stepY[way]) + " 0;");
+    }
+
+    private static void everyWayIn() throws IOException {
+        CHECK.says("however all are FACING with a WAY IN for each");
+        for (int way = 0; way < 4; way++) {
+            for (int other = 0; other < 4; other++) {
+                boolean must = way == other;
+                bounds("ways in " + way + " and " + other, amongWalls(way, other), must ? 1 : 0, must ? 1 : NONE);
+                CHECK.due("least is owed by " + other, amongWalls(way, other).turn(0), other);
+            }
+        }
+    }
+
     private static void asIfOpen() throws IOException {
         CHECK.says("one of both SEES the other one, were all open and no fog: how many; the first; NONE.");
         Doors x = Check.quarterOf("w3;rfff;d0 0 1;d2 0 3;");
@@ -287,6 +316,7 @@ public final class ShouldEdgesTest {
         pairs();
         boundAsked();
         bound();
+        everyWayIn();
         asIfOpen();
         CHECK.end();
     }
