@@ -1,12 +1,9 @@
-import com.sun.source.tree.CompilationUnitTree;
 import com.sun.source.tree.MethodInvocationTree;
 import com.sun.source.tree.MethodTree;
 import com.sun.source.tree.NewClassTree;
-import com.sun.source.util.JavacTask;
 import com.sun.source.util.TreePath;
 import com.sun.source.util.TreePathScanner;
 import com.sun.source.util.Trees;
-import java.nio.file.Path;
 import java.util.ArrayList;
 import java.util.LinkedHashMap;
 import java.util.LinkedHashSet;
@@ -15,28 +12,12 @@ import java.util.Map;
 import java.util.Set;
 import javax.lang.model.element.Element;
 import javax.lang.model.element.Modifier;
-import javax.tools.JavaCompiler;
-import javax.tools.StandardJavaFileManager;
-import javax.tools.ToolProvider;
 
 /** Rules 8 and 11 of LANGUAGE.md: who calls whom, eight deep at most, and that TURN alone recurs. */
 public final class DepthTest {
     private static final Check CHECK = new Check();
     private static final Map<Element, Set<Element>> CALLS = new LinkedHashMap<>();
     private static final Set<String> RECUR = new LinkedHashSet<>();
-
-    private static void readCalls() throws Exception {
-        JavaCompiler javac = ToolProvider.getSystemJavaCompiler();
-        try (StandardJavaFileManager files = javac.getStandardFileManager(null, null, null)) {
-            JavacTask task = (JavacTask) javac.getTask(null, files, null, List.of("-proc:none"), null,
-                files.getJavaFileObjects(Path.of("src/main/java/FacingDoors.java")));
-            Iterable<? extends CompilationUnitTree> units = task.parse();
-            task.analyze();
-            for (CompilationUnitTree unit : units) {
-                new CallScanner(Trees.instance(task)).scan(unit, null);
-            }
-        }
-    }
 
     private static final class CallScanner extends TreePathScanner<Void, Element> {
         private final Trees trees;
@@ -87,7 +68,7 @@ public final class DepthTest {
     }
 
     public static void main(String[] args) throws Exception {
-        readCalls();
+        Sources.read(Sources.main(), (unit, trees) -> new CallScanner(trees).scan(unit, null));
         int faces = 0;
         for (Element method : CALLS.keySet()) {
             if (method.getModifiers().contains(Modifier.PUBLIC)) {

@@ -13,7 +13,7 @@ public final class DoneEdgesTest {
     // ---- promise 7
 
     private static void hinges() throws IOException {
-        CHECK.says("TURNED: what it was FACING. BAD; STATE: it is so.");
+        CHECK.says("`int hinges(int d, int facing)`: TURNED: what it was FACING. BAD; STATE: it is so.");
         for (int was = 0; was < 4; was++) {
             for (int to = 0; to < 4; to++) {
                 Doors x = Check.quarterOf("w1;rf;d0 0 " + was + ";");
@@ -43,7 +43,7 @@ public final class DoneEdgesTest {
     // ---- promise 8
 
     private static void moves() throws IOException {
-        CHECK.says("MOVED: how many may be UNDONE then. BAD; STATE: it can not be.");
+        CHECK.says("`int moves(int d, int way)`: MOVED: how many may be UNDONE then. BAD; STATE: it can not be.");
         Doors x = Check.quarterOf("w7;rfffffff;d0 0 0;");
         for (int n = 1; n <= 6; n++) {
             CHECK.due("to the right", x.moves(0, 1), n);
@@ -99,7 +99,7 @@ public final class DoneEdgesTest {
     // ---- promise 9
 
     private static void opens() throws IOException {
-        CHECK.says("OPENED (1), shut (0): its DUE then. BAD; STATE: it is so.");
+        CHECK.says("`int opens(int d, int is)`: OPENED (1), shut (0): its DUE then. BAD; STATE: it is so.");
         Doors x = Check.quarterOf("w3;rfff;d0 0 1;d2 0 3;p9;");
         CHECK.due("open already", x.opens(0, 1), STATE);
         CHECK.due("shut", x.opens(0, 0), 0);
@@ -127,7 +127,8 @@ public final class DoneEdgesTest {
     // ---- promise 10
 
     private static void carts() throws IOException {
-        CHECK.says("CART is parked (1), leaves (0): how many there are. BAD; STATE: it can not be.");
+        CHECK.says("`int cart(int x, int y, int is)`: "
+            + "CART is parked (1), leaves (0): how many there are. BAD; STATE: it can not be.");
         Doors x = Check.quarterOf("w3;rfff;rfff;");
         CHECK.due("none to leave", x.cart(0, 0, 0), STATE);
         for (int n = 0; n < 6; n++) {
@@ -173,7 +174,7 @@ public final class DoneEdgesTest {
     // ---- promises 11 and 12
 
     private static void leaf() throws IOException {
-        CHECK.says("LEAF (1), bare (0): DUES of all then. BAD; STATE: it is so.");
+        CHECK.says("`int leaf(int is)`: LEAF (1), bare (0): DUES of all then. BAD; STATE: it is so.");
         Doors x = Check.quarterOf("w3;rftf;d0 0 1;d2 0 3;p9;");
         CHECK.due("in leaf already", x.leaf(1), STATE);
         CHECK.due("bare", x.leaf(0), 36);
@@ -192,7 +193,7 @@ public final class DoneEdgesTest {
     }
 
     private static void fog() throws IOException {
-        CHECK.says("FOG (1), none (0): DUES of all then. BAD; STATE: it is so.");
+        CHECK.says("`int fog(int is)`: FOG (1), none (0): DUES of all then. BAD; STATE: it is so.");
         Doors x = Check.quarterOf("w3;rfff;d0 0 1;d2 0 3;p9;");
         CHECK.due("none already", x.fog(0), STATE);
         CHECK.due("fog", x.fog(1), 0);
@@ -211,7 +212,7 @@ public final class DoneEdgesTest {
     // ---- promise 13
 
     private static void bills() throws IOException {
-        CHECK.says("BILLED: DUES of all.");
+        CHECK.says("`int bills()`: BILLED: DUES of all.");
         Doors none = new Doors();
         CHECK.due("without doors", none.bills() * 10 + none.count(6), 1);
         Doors x = Check.quarterOf("w3;rfff;d0 0 1;d2 0 3;p9;");
@@ -230,7 +231,7 @@ public final class DoneEdgesTest {
 
     /** Nothing can be owed so far in 512 calls (18 a bill): this alone goes on beyond them. */
     private static void mostOwed() throws IOException {
-        CHECK.says("each DOOR's DUE is added to what it has OWED (9999 at most)");
+        CHECK.says("BILLED: each DOOR's DUE is added to what it has OWED (9999 at most)");
         FacingDoors x = new FacingDoors();
         String text = "w4;rffff;d0 0 1;d1 0 3;d3 0 3;p9;";
         for (int i = 0; i < text.length(); i++) {
@@ -252,10 +253,69 @@ public final class DoneEdgesTest {
         CHECK.due("undone", x.door(0, 8), 9990);
     }
 
+    // ---- what is another one then, and what stays as it was
+
+    /** All that can be done has its name here, in the order in which it can be asked. */
+    private static final String[] NAMES = {"x0", "y0", "facing0", "open0", "owed0", "x1", "y1", "facing1", "open1",
+        "owed1", "carts", "leaf", "fog", "cell 0 1", "cell 1 1"};
+
+    private static int[] values(Doors x) {
+        int[] all = new int[NAMES.length];
+        int[] ofDoor = {0, 1, 2, 3, 8};
+        for (int n = 0; n < 10; n++) {
+            all[n] = x.door(n / 5, ofDoor[n % 5]);
+        }
+        for (int n = 0; n < 3; n++) {
+            all[10 + n] = x.now(4 + n);
+        }
+        all[13] = x.cell(0, 1);
+        all[14] = x.cell(1, 1);
+        return all;
+    }
+
+    /** Two doors that stare at one another, and a cart on 0 1: the call changes those of the names alone. */
+    private static void changes(String what, ToLongFunction<Doors> call, String changed) {
+        Doors x = Check.quarterOf("w3;rfff;rfff;d0 0 1;d2 0 3;p4;");
+        x.cart(0, 1, 1);
+        int[] was = values(x);
+        CHECK.due(what + " is done", call.applyAsLong(x) < 0 ? 1 : 0, 0);
+        int[] is = values(x);
+        StringBuilder other = new StringBuilder();
+        for (int n = 0; n < is.length; n++) {
+            other.append(is[n] == was[n] ? "" : NAMES[n] + " " + was[n] + " to " + is[n] + "; ");
+        }
+        CHECK.same(what + " changes", other.toString(), changed);
+    }
+
+    private static void whatChanges() throws IOException {
+        CHECK.says("TURNED: a DOOR is FACING another way.");
+        changes("hinges of 0", x -> x.hinges(0, 0), "facing0 1 to 0; ");
+        changes("hinges of 1", x -> x.hinges(1, 2), "facing1 3 to 2; ");
+        CHECK.says("MOVED: a DOOR is on the next CELL in a direction (free, no CART, no DOOR there).");
+        changes("a move of 0", x -> x.moves(0, 1), "x0 0 to 1; ");
+        changes("a move of 1", x -> x.moves(1, 2), "y1 0 to 1; ");
+        CHECK.says("OPENED, shut.");
+        changes("shutting 0", x -> x.opens(0, 0), "open0 1 to 0; ");
+        changes("shutting 1", x -> x.opens(1, 0), "open1 1 to 0; ");
+        changes("shutting and opening", x -> x.opens(1, 0) + x.opens(1, 1), "");
+        CHECK.says("CART: one is parked on a free CELL with no DOOR and no CART, or leaves it.");
+        changes("a cart that comes", x -> x.cart(1, 1, 1), "carts 1 to 2; cell 1 1 0 to 3; ");
+        changes("a cart that leaves", x -> x.cart(0, 1, 0), "carts 1 to 0; cell 0 1 3 to 0; ");
+        CHECK.says("LEAF: trees are in leaf, or bare.");
+        changes("leaves that fall", x -> x.leaf(0), "leaf 1 to 0; ");
+        changes("leaves that come again", x -> x.leaf(0) + x.leaf(1), "");
+        CHECK.says("FOG: there is, or is none.");
+        changes("fog", x -> x.fog(1), "fog 0 to 1; ");
+        changes("fog that lifts", x -> x.fog(1) + x.fog(0), "");
+        CHECK.says("BILLED: each DOOR's DUE is added to what it has OWED");
+        changes("bills", x -> x.bills(), "owed0 0 to 8; owed1 0 to 8; ");
+        changes("bills of one that looks away", x -> x.hinges(1, 2) + x.bills(), "owed0 0 to 4; facing1 3 to 2; ");
+    }
+
     // ---- promise 14
 
     private static void undoNone() throws IOException {
-        CHECK.says("UNDONE: how many more may be. STATE: none.");
+        CHECK.says("`int undo()`: UNDONE: how many more may be. STATE: none.");
         Doors x = Check.quarterOf(MIDST);
         CHECK.due("none", x.undo(), STATE);
         for (int n = 1; n <= 13; n++) {
@@ -382,6 +442,7 @@ public final class DoneEdgesTest {
         fog();
         bills();
         mostOwed();
+        whatChanges();
         undoNone();
         tenAreKnown();
         eachIsUndone();

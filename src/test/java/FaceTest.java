@@ -1,20 +1,42 @@
+import java.io.IOException;
 import java.lang.reflect.Constructor;
 import java.lang.reflect.Field;
 import java.lang.reflect.Member;
 import java.lang.reflect.Method;
 import java.lang.reflect.Modifier;
+import java.nio.file.Files;
+import java.nio.file.Path;
 import java.util.Arrays;
+import java.util.TreeMap;
 import java.util.TreeSet;
+import java.util.regex.Matcher;
+import java.util.regex.Pattern;
 
 /** The public face, and promise 1: what a new object is. */
 public final class FaceTest {
-    private static final String[] FACE = {
-        "int type(int)", "int clear()", "int quarter()", "int cell(int,int)", "int door(int,int)",
-        "int hinges(int,int)", "int moves(int,int)", "int opens(int,int)", "int cart(int,int,int)", "int leaf(int)",
-        "int fog(int)", "int bills()", "int undo()", "int now(int)", "int turn(int)", "int cartAt()",
-        "int bound(int)", "int tells(int,int)", "int forget()", "int open(int)", "int odds(int,int,int)",
-        "int mean(int,int)", "int mark(int,int)", "int keep(int)", "int back(int)", "int count(int)", "long trace()",
-    };
+    private static final String FACE = "public final class FacingDoors { "
+        + "public static final int BAD = -1, STATE = -2, FULL = -3, NONE = -9; public static final int NO = -1000000; "
+        + "public FacingDoors(); "
+        + "public int type(int c); public int clear(); public int quarter(); "
+        + "public int cell(int x, int y); public int door(int d, int what); "
+        + "public int hinges(int d, int facing); public int moves(int d, int way); public int opens(int d, int is); "
+        + "public int cart(int x, int y, int is); public int leaf(int is); public int fog(int is); "
+        + "public int bills(); public int undo(); public int now(int what); "
+        + "public int turn(int d); public int cartAt(); public int bound(int what); "
+        + "public int tells(int d, int v); public int forget(); public int open(int what); "
+        + "public int odds(int x, int v, int what); public int mean(int x, int what); "
+        + "public int mark(int kind, int d); public int keep(int image); public int back(int image); "
+        + "public int count(int what); public long trace(); }";
+
+    /** The methods of the face without their parameters' names, which a compiled class does not tell. */
+    private static TreeSet<String> methodsTold() {
+        TreeSet<String> all = new TreeSet<>();
+        Matcher m = Pattern.compile("public (\\w+ \\w+)\\(([^)]*)\\);").matcher(FACE);
+        while (m.find()) {
+            all.add(m.group(1) + "(" + m.group(2).replaceAll("(int) \\w+", "$1").replace(", ", ",") + ")");
+        }
+        return all;
+    }
 
     private static String face(Method m) {
         StringBuilder s = new StringBuilder(m.getReturnType() + " " + m.getName() + "(");
@@ -36,7 +58,9 @@ public final class FaceTest {
                 methods.add(face(m));
             }
         }
-        check.same("methods", methods.toString(), new TreeSet<>(Arrays.asList(FACE)).toString());
+        check.says(FACE);
+        check.due("how many methods", methodsTold().size(), 27);
+        check.same("methods", methods.toString(), methodsTold().toString());
         TreeSet<String> fields = new TreeSet<>();
         for (Field f : FacingDoors.class.getDeclaredFields()) {
             if (!isPrivate(f)) {
@@ -54,7 +78,40 @@ public final class FaceTest {
         check.due("class is public and final", FacingDoors.class.getModifiers(), Modifier.PUBLIC | Modifier.FINAL);
     }
 
-    private static void newObject(Check check) {
+    /** The calls stand in the class as in the interface, each part under its own words. */
+    private static void parts(Check check) throws IOException {
+        String source = Files.readString(Path.of("src/main/java/FacingDoors.java"));
+        String calls = "";
+        TreeMap<String, String> parts = new TreeMap<>();
+        for (String line : source.split("\n")) {
+            Matcher part = Pattern.compile(" {4}// (---- .*)").matcher(line);
+            Matcher call = Pattern.compile(" {4}public \\w+ (\\w+)\\(.*").matcher(line);
+            if (part.matches()) {
+                calls = part.group(1);
+            } else if (call.matches()) {
+                parts.merge(calls, "`" + call.group(1) + "`", (a, b) -> a + ", " + b);
+            }
+        }
+        check.due("parts", parts.size(), 5);
+        check.says("Ahead of the calls `type`, `clear`, `quarter`, `cell`, `door` the interface says: "
+            + "---- the quarter.");
+        check.same("the quarter", parts.get("---- the quarter"), "`type`, `clear`, `quarter`, `cell`, `door`");
+        check.says("Ahead of the calls `hinges`, `moves`, `opens`, `cart`, `leaf`, `fog`, `bills`, `undo`, `now` "
+            + "the interface says: ---- what is done.");
+        check.same("what is done", parts.get("---- what is done"),
+            "`hinges`, `moves`, `opens`, `cart`, `leaf`, `fog`, `bills`, `undo`, `now`");
+        check.says("Ahead of the calls `turn`, `cartAt`, `bound` the interface says: ---- how it should be.");
+        check.same("how it should be", parts.get("---- how it should be"), "`turn`, `cartAt`, `bound`");
+        check.says("Ahead of the calls `tells`, `forget`, `open`, `odds`, `mean` the interface says: "
+            + "---- who stood open.");
+        check.same("who stood open", parts.get("---- who stood open"), "`tells`, `forget`, `open`, `odds`, `mean`");
+        check.says("Ahead of the calls `mark`, `keep`, `back`, `count`, `trace` the interface says: "
+            + "---- kinds, images.");
+        check.same("kinds, images", parts.get("---- kinds, images"), "`mark`, `keep`, `back`, `count`, `trace`");
+    }
+
+    private static void newObject(Check check) throws IOException {
+        check.says("## Promise 1: A new object `FacingDoors()`: As told; no CELLS.");
         FacingDoors x = new FacingDoors();
         int[] counts = {0, 0, 0, 1, 7, 0, 0, 0};
         int[] nows = {0, 0, 0, 0, 0, 1, 0, 0};
@@ -92,6 +149,7 @@ public final class FaceTest {
     public static void main(String[] args) throws Exception {
         Check check = new Check();
         faceIsAsTold(check);
+        parts(check);
         newObject(check);
         check.end();
     }

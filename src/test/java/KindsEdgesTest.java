@@ -31,7 +31,7 @@ public final class KindsEdgesTest {
     }
 
     private static void belowZero() throws IOException {
-        CHECK.says("`NO = -1000000`: What none is, where a number may be below 0.");
+        CHECK.says("The constants: `NO = -1000000`: What none is, where a number may be below 0.");
         for (int facing = 0; facing < 4; facing++) {
             Doors x = Check.quarterOf("w1;rf;d0 0 " + facing + ";");
             CHECK.due("a gate facing " + facing, x.mark(2, 0), -facing);
@@ -40,6 +40,46 @@ public final class KindsEdgesTest {
             CHECK.due("a shut school facing " + facing, x.mark(4, 0), -facing);
         }
         CHECK.due("NO", NO, -1000000);
+    }
+
+    /** Each body that is asked leaves its own sign in THE TRACE, so THE TRACE tells which KIND is over which. */
+    private static void overOneAnother() throws IOException {
+        CHECK.says("KINDS of DOORS are over one another: 0 DOOR; 1 PORCH, 2 GATE, 5 HATCH (each under DOOR); "
+            + "3 BAY (under PORCH); 4 SCHOOL (under GATE).");
+        int[] above = {-1, 0, 0, 1, 2, 0};
+        long[] signs = {1, 10, 100, 1000, 10000, 100000};
+        Doors x = Check.quarterOf(THREE);
+        long was = x.trace();
+        for (int kind = 0; kind < 6; kind++) {
+            long come = 0;
+            for (int k = kind; k >= 0; k = above[k]) {
+                come += signs[k];
+            }
+            x.mark(kind, 0);
+            CHECK.due("the bodies that kind " + kind + " asks", x.trace() - was, come);
+            was = x.trace();
+        }
+    }
+
+    private static void up() throws IOException {
+        CHECK.says("MARK of a DOOR as if of a KIND (numbers in brackets come to THE TRACE as often as mark() asks that "
+            + "body; \"up\" is what the KIND above does)");
+        Doors x = Check.quarterOf("w3;rftf;rfff;d0 0 1;d2 0 3;d0 1 0;p7;");
+        for (int n = 0; n < 8; n++) {
+            for (int d = 0; d < 3; d++) {
+                CHECK.due("a door's due", x.mark(0, d), x.door(d, 5));
+                CHECK.due("what a porch adds", x.mark(1, d) - x.mark(0, d), Integer.bitCount(x.door(d, 7)));
+                CHECK.due("what a gate takes", x.mark(0, d) - x.mark(2, d), x.door(d, 2));
+                CHECK.due("a bay is twice a porch", x.mark(3, d), 2 * x.mark(1, d));
+                CHECK.due("what a school adds", x.mark(4, d) - x.mark(2, d), 7 * x.door(d, 3));
+                CHECK.due("what a hatch adds", x.mark(5, d) - x.mark(0, d), x.door(d, 8));
+            }
+            x.leaf(n & 1);
+            x.bills();
+            x.opens(n % 3, 0);
+            x.hinges(2, n & 3);
+            x.fog(n / 4);
+        }
     }
 
     private static void marks(String why, Doors x, int d, int... want) {
@@ -113,7 +153,7 @@ public final class KindsEdgesTest {
     }
 
     private static void keep() throws IOException {
-        CHECK.says("An IMAGE is kept: DUES of all. BAD.");
+        CHECK.says("`int keep(int image)`: An IMAGE is kept: DUES of all. BAD.");
         Doors x = Check.quarterOf(THREE);
         CHECK.due("keep -1", x.keep(-1), BAD);
         CHECK.due("keep 2", x.keep(2), BAD);
@@ -130,7 +170,8 @@ public final class KindsEdgesTest {
     }
 
     private static void back() throws IOException {
-        CHECK.says("All of that becomes as an IMAGE has it: DUES of all. BAD; STATE: none was kept.");
+        CHECK.says("`int back(int image)`: "
+            + "All of that becomes as an IMAGE has it: DUES of all. BAD; STATE: none was kept.");
         Doors none = new Doors();
         CHECK.due("of a new object", none.back(0) + none.back(1), 2 * STATE);
         CHECK.due("kept of a new object", none.keep(0) + none.leaf(0) + none.back(0), 0);
@@ -279,6 +320,8 @@ public final class KindsEdgesTest {
         markAsked();
         belowZero();
         kinds();
+        overOneAnother();
+        up();
         trace();
         keep();
         back();

@@ -7,7 +7,7 @@ public final class LongRunsTest {
     private static final String STREET = "w2;rff;d0 0 1;d1 0 3;p9;";
 
     private static void mostBilled() throws IOException {
-        CHECK.says("An object is used for at most 512 calls after it has been made");
+        CHECK.says("An object is used for at most 512 calls after it has been made; what later calls answer is free.");
         Doors x = Check.quarterOf(STREET);
         int bills = Doors.MOST_CALLS - 3 - x.calls();
         for (int n = 1; n <= bills; n++) {

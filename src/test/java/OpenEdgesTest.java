@@ -20,7 +20,7 @@ public final class OpenEdgesTest {
     // ---- promise 19
 
     private static void tells() throws IOException {
-        CHECK.says("TOLD: how much there is. BAD; FULL.");
+        CHECK.says("`int tells(int d, int v)`: TOLD: how much there is. BAD; FULL.");
         CHECK.due("of a new object", new Doors().tells(0, 0), BAD);
         CHECK.due("without doors", line(0).tells(0, 0), BAD);
         for (int doors = 1; doors <= 6; doors++) {
@@ -65,7 +65,7 @@ public final class OpenEdgesTest {
     // ---- promise 20
 
     private static void forget() throws IOException {
-        CHECK.says("Nothing was TOLD: how much there was.");
+        CHECK.says("`int forget()`: Nothing was TOLD: how much there was.");
         CHECK.due("a new object", new Doors().forget(), 0);
         for (int many = 0; many <= 6; many++) {
             Doors x = line(2);
@@ -91,7 +91,8 @@ public final class OpenEdgesTest {
     }
 
     private static void openAsked() throws IOException {
-        CHECK.says("OPEN: how many (what = 0), the least (1; NONE), those in all (2; NONE). BAD.");
+        CHECK.says("`int open(int what)`: "
+            + "OPEN: how many (what = 0), the least (1; NONE), those in all (2; NONE). BAD.");
         sets("a new object", new Doors(), 1, 0, 0);
         Doors x = line(1);
         sets("one door", x, 2, 0, 0);
@@ -162,7 +163,8 @@ public final class OpenEdgesTest {
     }
 
     private static void oddsAsked() throws IOException {
-        CHECK.says("ODDS: upper (what = 0), lower number (1), in least terms. BAD.");
+        CHECK.says("`int odds(int x, int v, int what)`: "
+            + "ODDS: upper (what = 0), lower number (1), in least terms. BAD.");
         for (int tenths = 0; tenths <= 10; tenths++) {
             odds(new Doors(), tenths, 0, 1, 1);
             odds(new Doors(), tenths, 1, 0, 1);
@@ -229,7 +231,7 @@ public final class OpenEdgesTest {
     }
 
     private static void meanAsked() throws IOException {
-        CHECK.says("MEAN: upper (what = 0), lower number (1), in least terms. BAD.");
+        CHECK.says("`int mean(int x, int what)`: MEAN: upper (what = 0), lower number (1), in least terms. BAD.");
         Doors x = Check.quarterOf("w2;rff;d0 0 1;d1 0 0;");
         int[][] terms = {{0, 1}, {1, 10}, {1, 5}, {3, 10}, {2, 5}, {1, 2}, {3, 5}, {7, 10}, {4, 5}, {9, 10}, {1, 1}};
         for (int tenths = 0; tenths <= 10; tenths++) {

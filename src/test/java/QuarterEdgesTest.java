@@ -81,8 +81,27 @@ public final class QuarterEdgesTest {
         }
     }
 
+    private static void grounds() throws IOException {
+        CHECK.says("and y (0 .. ROWS less 1): free, a wall or a tree.");
+        for (int turn = 0; turn < 3; turn++) {
+            StringBuilder text = new StringBuilder("w7;");
+            for (int y = 0; y < 7; y++) {
+                text.append('r');
+                for (int at = 0; at < 7; at++) {
+                    text.append("fxt".charAt((at + 2 * y + turn) % 3));
+                }
+                text.append(';');
+            }
+            Doors x = Check.quarterOf(text.toString());
+            for (int n = 0; n < 49; n++) {
+                CHECK.due("cell " + n % 7 + " " + n / 7, x.cell(n % 7, n / 7), (n % 7 + 2 * (n / 7) + turn) % 3);
+            }
+        }
+    }
+
     private static void whatACellIs() throws IOException {
-        CHECK.says("0 free, 1 a wall, 2 a tree, 3 a CART is there, 10 and the DOOR that is there. BAD.");
+        CHECK.says("`int cell(int x, int y)`: What a CELL is: "
+            + "0 free, 1 a wall, 2 a tree, 3 a CART is there, 10 and the DOOR that is there. BAD.");
         Doors x = Check.quarterOf("w7;rfxtffff;rfffffff;" + door(4, 0, 0) + door(0, 1, 0) + door(1, 1, 0)
             + door(2, 1, 0) + door(3, 1, 0) + door(4, 1, 0));
         x.cart(3, 0, 1);
@@ -101,6 +120,23 @@ public final class QuarterEdgesTest {
     }
 
     // ---- who SEES whom
+
+    /** Door 0 in the midst, door 1 on each other cell, each facing every way. */
+    private static void direction() throws IOException {
+        CHECK.says("A DOOR SEES another one, if it is open, there is no fog, "
+            + "and that one stands in the direction that it is FACING");
+        for (int n = 0; n < 49; n++) {
+            int dx = n % 7 - 3, dy = n / 7 - 3;
+            for (int way = 0; way < 4 && n != 24; way++) {
+                Doors x = Check.quarterOf(SQUARE + door(3, 3, way) + door(n % 7, n / 7, n % 4));
+                int far = Math.abs(dx) + Math.abs(dy);
+                boolean ahead = dx == far * STEP_X[way] && dy == far * STEP_Y[way];
+                CHECK.due("way " + way + ", the other on " + n % 7 + " " + n / 7, x.door(0, 4), ahead ? 2 : 0);
+                boolean behind = -dx == far * STEP_X[n % 4] && -dy == far * STEP_Y[n % 4];
+                CHECK.due("the other one facing " + n % 4, x.door(1, 4), behind ? 1 : 0);
+            }
+        }
+    }
 
     private static void sight() throws IOException {
         CHECK.says("as many CELLS on as SIGHT tells at most (1: the next one)");
@@ -184,7 +220,7 @@ public final class QuarterEdgesTest {
     }
 
     private static void due() throws IOException {
-        CHECK.says("PRICE for each that it SEES, twice that if it STARES");
+        CHECK.says("DUE of a DOOR: PRICE for each that it SEES, twice that if it STARES.");
         for (int price = 1; price <= 9; price++) {
             Doors x = Check.quarterOf("w4;rffff;d0 0 1;d1 0 3;d3 0 3;p" + price + ";");
             CHECK.due("stares", x.door(0, 5), 2 * price);
@@ -198,7 +234,8 @@ public final class QuarterEdgesTest {
     // ---- WAY IN
 
     private static void wayIn() throws IOException {
-        CHECK.says("the CELL that it is FACING is one of THE QUARTER, free (a tree is not), with no CART, no DOOR");
+        CHECK.says("WAY IN: "
+            + "the CELL that it is FACING is one of THE QUARTER, free (a tree is not), with no CART, no DOOR.");
         for (int way = 0; way < 4; way++) {
             CHECK.due("out " + way, Check.quarterOf(free(1, 1) + door(0, 0, way)).door(0, 6), 0);
             for (String ground : new String[] {"f", "x", "t"}) {
@@ -229,7 +266,8 @@ public final class QuarterEdgesTest {
     // ---- promises 6, 15 and 27
 
     private static void doorAsked() throws IOException {
-        CHECK.says("5 DUE, 6 whether there is a WAY IN, 7 SEEN (bits), 8 OWED. BAD.");
+        CHECK.says("`int door(int d, int what)`: Of a DOOR: 0 x, 1 y, 2 FACING, 3 whether open, 4 whom it SEES (bits), "
+            + "5 DUE, 6 whether there is a WAY IN, 7 SEEN (bits), 8 OWED. BAD.");
         Doors x = Check.quarterOf(SQUARE + door(0, 0, 1) + door(6, 0, 3) + door(3, 3, 0) + door(0, 6, 0)
             + door(6, 6, 0) + door(3, 6, 0) + "p9;");
         // 0 and 1 stare, 3 sees 0, 4 sees 1, 5 sees 2, 2 sees none.
@@ -266,7 +304,8 @@ public final class QuarterEdgesTest {
     }
 
     private static void nowAsked() throws IOException {
-        CHECK.says("4 CARTS, 5 whether in leaf, 6 whether there is fog, 7 OWED by all. BAD.");
+        CHECK.says("`int now(int what)`: 0 DUES of all, 1 who is open (bits), 2 who has a WAY IN (bits), 3 PAIRS, "
+            + "4 CARTS, 5 whether in leaf, 6 whether there is fog, 7 OWED by all. BAD.");
         Doors x = Check.quarterOf(free(4, 4) + door(0, 0, 1) + door(3, 0, 3) + door(0, 1, 1) + door(3, 1, 3)
             + door(0, 3, 1) + door(3, 3, 3) + "p9;");
         CHECK.due("dues of three twos that stare", x.now(0), 108);
@@ -297,7 +336,8 @@ public final class QuarterEdgesTest {
     }
 
     private static void countAsked() throws IOException {
-        CHECK.says("5 TOLD, 6 how many may be UNDONE, 7 bytes of THE TEXT. BAD.");
+        CHECK.says("`int count(int what)`: 0 WIDE, 1 ROWS, 2 DOORS, 3 PRICE, 4 SIGHT, "
+            + "5 TOLD, 6 how many may be UNDONE, 7 bytes of THE TEXT. BAD.");
         Doors x = Check.quarterOf("w7;rfffffff;d0 0 1;p9;s1;");
         for (int n = 0; n < 12; n++) {
             CHECK.due("told", x.count(5), Math.min(6, n));
@@ -322,7 +362,9 @@ public final class QuarterEdgesTest {
         newObject();
         atFirst();
         cells();
+        grounds();
         whatACellIs();
+        direction();
         sight();
         between();
         trees();

@@ -20,7 +20,7 @@ public final class ShouldEdgesTest {
     // ---- promise 16
 
     private static void turnAsked() throws IOException {
-        CHECK.says("TURN: FACING of a DOOR; d = -1 how much, -2 how many are TURNED; NONE. BAD.");
+        CHECK.says("`int turn(int d)`: TURN: FACING of a DOOR; d = -1 how much, -2 how many are TURNED; NONE. BAD.");
         turned("a new object", new Doors(), 0, 0);
         turned("cells without doors", Check.quarterOf(SQUARE), 0, 0);
         turned("one door", Check.quarterOf("w2;rff;d0 0 1;"), 0, 0, 1);
@@ -143,7 +143,7 @@ public final class ShouldEdgesTest {
     }
 
     private static void relief() throws IOException {
-        CHECK.says("the CELL for one more CART by which DUES of all are least, if less than NOW");
+        CHECK.says("CART AT: the CELL for one more CART by which DUES of all are least, if less than NOW");
         CHECK.due("a new object", new Doors().cartAt(), NONE);
         cartAt("no doors", SQUARE, NONE);
         cartAt("nobody sees", "w3;rfff;d0 0 0;d2 0 1;", NONE);
@@ -182,7 +182,7 @@ public final class ShouldEdgesTest {
     // ---- PAIRS
 
     private static void pairs() throws IOException {
-        CHECK.says("how many twos of DOORS STARE at one another (each at the other) by SIGHT and all as NOW");
+        CHECK.says("PAIRS: how many twos of DOORS STARE at one another (each at the other) by SIGHT and all as NOW.");
         CHECK.due("a new object", new Doors().now(3), 0);
         CHECK.due("one", Check.quarterOf("w7;rfffffff;d0 0 1;d6 0 3;").now(3), 1);
         CHECK.due("one does not look back", Check.quarterOf("w7;rfffffff;d0 0 1;d6 0 0;").now(3), 0);
@@ -218,7 +218,8 @@ public final class ShouldEdgesTest {
     }
 
     private static void boundAsked() throws IOException {
-        CHECK.says("how many (what = 0; NONE: no way by which each has a WAY IN), the first (1; NONE). BAD.");
+        CHECK.says("`int bound(int what)`: BOUND: "
+            + "how many (what = 0; NONE: no way by which each has a WAY IN), the first (1; NONE). BAD.");
         bounds("a new object", new Doors(), 0, NONE);
         bounds("cells without doors", Check.quarterOf(SQUARE), 0, NONE);
         bounds("one door", Check.quarterOf("w2;rff;d0 0 1;"), 0, NONE);

@@ -108,7 +108,7 @@ public final class TextEdgesTest {
     }
 
     private static void bytes() throws IOException {
-        CHECK.says("They are a text (150 bytes at most)");
+        CHECK.says("They are a text (150 bytes at most), read byte by byte");
         reads("w1" + times(" ", 147) + ";", 1);
         fault("w1;" + times(" ", 146) + "^!");
         fault("w1" + times(" ", 148) + "^");
@@ -116,6 +116,24 @@ public final class TextEdgesTest {
         Check.typeAll(x, "w1" + times(" ", 148));
         CHECK.due("the byte 151", x.type(';'), FacingDoors.FULL);
         CHECK.due("it did not come", x.quarter(), -160);
+    }
+
+    /** What is typed comes one byte after another, whatever is asked and done between. */
+    private static void byteByByte() throws IOException {
+        CHECK.says("a text (150 bytes at most), read byte by byte");
+        String text = "w2;rff;d0 0 1;d1 0 3;";
+        Doors x = Check.quarterOf("w1;rf;d0 0 0;");
+        for (int i = 0; i < text.length(); i++) {
+            CHECK.due("byte " + i, x.type(text.charAt(i)), i + 1);
+            x.hinges(0, i + 1 & 3);
+            x.keep(0);
+            x.undo();
+            x.back(0);
+            x.type(256);
+            CHECK.due("what was told before stays", x.count(0) * 10 + x.count(2), 11);
+        }
+        CHECK.due("all of it", x.quarter(), 4);
+        CHECK.due("what it tells", x.now(0), 4);
     }
 
     // ---- what is between and what ends
@@ -182,6 +200,23 @@ public final class TextEdgesTest {
         fault("w1;rf;d0 0 0;p1;^rf;");
         Doors x = reads("w1;p2;rf;s3;rx;d0 0 2;", 6);
         CHECK.due("the next row", x.cell(0, 0) * 10 + x.cell(0, 1), 101);
+    }
+
+    private static void whatItemsTell() throws IOException {
+        CHECK.says("d X Y F (a door) ; p N (price) ; s N (sight)");
+        Doors x = reads("w3;rfff;rfff;d2 1 3;p4;s5;", 6);
+        CHECK.due("X, Y, F", x.door(0, 0) * 100 + x.door(0, 1) * 10 + x.door(0, 2), 213);
+        CHECK.due("price and sight", x.count(3) * 10 + x.count(4), 45);
+        String[] doors = {"^;", "0^;", "0 0^;", "0 0 0 ^0;", "0 0 0^d;", "^x;", "0^f;", "0 0^w;", "^d;"};
+        for (String door : doors) {
+            fault("w1;rf;d" + door);
+        }
+        for (String letter : new String[] {"p", "s", "w"}) {
+            fault(letter + "^;");
+            fault(letter + "1 ^1;");
+            fault(letter + "^" + letter + ";");
+            fault(letter + "1^" + letter + ";");
+        }
     }
 
     private static void onceEach() throws IOException {
@@ -347,7 +382,7 @@ public final class TextEdgesTest {
     // ---- promises 2 to 4
 
     private static void type() throws IOException {
-        CHECK.says("A byte (0 .. 255) comes to THE TEXT: how many it has. BAD; FULL.");
+        CHECK.says("`int type(int c)`: A byte (0 .. 255) comes to THE TEXT: how many it has. BAD; FULL.");
         Doors x = new Doors();
         for (int c : new int[] {-1, 256, Integer.MIN_VALUE, Integer.MAX_VALUE, -256}) {
             CHECK.due("type " + c, x.type(c) * 1000 + x.count(7), -1000);
@@ -368,7 +403,7 @@ public final class TextEdgesTest {
     }
 
     private static void clear() throws IOException {
-        CHECK.says("THE TEXT is empty: how many bytes it had.");
+        CHECK.says("`int clear()`: THE TEXT is empty: how many bytes it had.");
         Doors x = new Doors();
         CHECK.due("nothing", x.clear(), 0);
         x.type('w');
@@ -382,7 +417,7 @@ public final class TextEdgesTest {
     }
 
     private static void quarter() throws IOException {
-        CHECK.says("THE TEXT tells all, and is empty then: how many ITEMS.");
+        CHECK.says("`int quarter()`: THE TEXT tells all, and is empty then: how many ITEMS.");
         reads("", 0);
         reads(times(" ", 150), 0);
         Doors x = reads(MOST, 16);
@@ -411,11 +446,13 @@ public final class TextEdgesTest {
         price();
         sight();
         bytes();
+        byteByByte();
         blanks();
         ends();
         wideIsFirst();
         cellsOfARow();
         rowsAheadOfDoors();
+        whatItemsTell();
         onceEach();
         letters();
         noItem();
